@@ -129,11 +129,15 @@ public final class PromiseTest {
         due("2: rule", b.setRule(false), false);
         b.begin(5, 6);
         bar(b, 43);
-        b.setColour(5, 1);
+        for (int d = 0; d < 6; d++) {
+            b.setColour(d, 1);
+        }
         b.begin(3, 1);
         b.begin(5, 6);
         due("2: the pegs that come back are free", b.allow(4, 3, true), true);
-        due("2: the disks that come back have colour 0", b.setColour(5, 0), 0);
+        for (int d = 0; d < 6; d++) {
+            due("2: the disks that come back have colour 0", b.setColour(d, 0), 0);
+        }
         bar(b, 43);
         b.begin(3, 3);
         due("2: no bar stays behind", b.wayByDisks(), 7);
