@@ -1,11 +1,17 @@
 /** Counts the wrong answers of a test, prints each, and ends the test with their exit code. */
 final class Check {
     private final String test;
+    private String sentence = "";
     private int asked = 0;
     private int wrong = 0;
 
     Check(String test) {
         this.test = test;
+    }
+
+    /** The words of the document that the answers asked for from here on rest on. */
+    void sentence(String words) {
+        sentence = "\n    where the document says: " + words;
     }
 
     void due(String call, long got, long want) {
@@ -42,7 +48,7 @@ final class Check {
     void tell(String what) {
         wrong++;
         if (wrong <= 40) {
-            System.out.println(test + ": " + what);
+            System.out.println(test + ": " + what + sentence);
         }
     }
 

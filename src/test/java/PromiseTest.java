@@ -619,13 +619,13 @@ public final class PromiseTest {
         b.put(1, 2);
         b.put(2, 1);
         due("21: gathered on a way of its own", b.wayByDisks(), b.way());
-        dueAllOf(b);
+        dueAll();
     }
 
     /** Every two arrangements of four disks, by both ways to tell it. */
-    private static void dueAllOf(TowerBench b) {
+    private static void dueAll() {
         for (int from = 0; from < 81; from++) {
-            b.begin(3, 4);
+            TowerBench b = bench(3, 4);
             int rest = from;
             for (int d = 0; d < 4; d++) {
                 b.put(d, rest % 3);
